@@ -4,10 +4,21 @@ final class Check {
     static final Class<IllegalArgumentException> ARGUMENT = IllegalArgumentException.class;
     static final Class<IllegalStateException> STATE = IllegalStateException.class;
 
+    private static String heading = "";
     private static int count = 0;
     private static int wrong = 0;
 
     private Check() {
+    }
+
+    /** The answers that follow are about this sentence of a promise; SentencesTest looks for it in the tests' text. */
+    static void sentence(int promise, String text) {
+        heading = "promise " + promise + ", " + text + ": ";
+    }
+
+    /** The same for a sentence of the document's terms. */
+    static void term(String text) {
+        heading = "terms, " + text + ": ";
     }
 
     static void due(String what, long got, long want) {
@@ -24,20 +35,27 @@ final class Check {
 
     /** The very class is due: a class below it, as the machine's own are, is wrong. */
     static void dueThrow(String what, Class<? extends RuntimeException> want, Runnable call) {
-        String got = "nothing";
+        due(what + ": what it throws", thrownBy(call), want.getName());
+    }
+
+    static void dueNoThrow(String what, Runnable call) {
+        due(what + ": what it throws", thrownBy(call), "nothing");
+    }
+
+    static String thrownBy(Runnable call) {
         try {
             call.run();
+            return "nothing";
         } catch (RuntimeException e) {
-            got = e.getClass().getName();
+            return e.getClass().getName();
         }
-        say(got.equals(want.getName()), what + " threw " + got + ", due is " + want.getName());
     }
 
     private static void say(boolean right, String text) {
         count++;
         if (!right) {
             wrong++;
-            System.out.println("  " + text);
+            System.out.println("  " + heading + text);
         }
     }
 

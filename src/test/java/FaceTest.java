@@ -40,10 +40,10 @@ public final class FaceTest {
     public static void main(String[] args) {
         Class<?> face = Restitutory.class;
         Check.due("the class is public and final", face.getModifiers(), Modifier.PUBLIC | Modifier.FINAL);
-        constants(face);
         constructors(face);
         methods(face);
         privateNames(face);
+        constants(face);
         Check.end();
     }
 
@@ -59,10 +59,13 @@ public final class FaceTest {
         for (String name : "NONE BOUGHT GIVEN INHERITED SEIZED FORCED LEFT".split(" ")) {
             want.add("public static final int " + name);
         }
-        Check.due("the constants", new TreeSet<>(found).toString(), new TreeSet<>(want).toString());
-        int[] values = {Restitutory.NONE, Restitutory.BOUGHT, Restitutory.GIVEN, Restitutory.INHERITED,
-            Restitutory.SEIZED, Restitutory.FORCED, Restitutory.LEFT};
-        Check.due("their values", Arrays.toString(values), "[-1, 0, 1, 2, 3, 4, 5]");
+        Check.due("what is not private", new TreeSet<>(found).toString(), new TreeSet<>(want).toString());
+        Check.term("The constants: `NONE = -1`: There is none.");
+        Check.due("NONE", Restitutory.NONE, -1);
+        Check.term("`BOUGHT = 0, GIVEN = 1, INHERITED = 2, SEIZED = 3, FORCED = 4, LEFT = 5`: Kinds of stations.");
+        int[] kinds = {Restitutory.BOUGHT, Restitutory.GIVEN, Restitutory.INHERITED, Restitutory.SEIZED,
+            Restitutory.FORCED, Restitutory.LEFT};
+        Check.due("the kinds", Arrays.toString(kinds), "[0, 1, 2, 3, 4, 5]");
     }
 
     private static void constructors(Class<?> face) {
@@ -107,7 +110,7 @@ public final class FaceTest {
         all.add(face);
         for (Class<?> type : all) {
             for (Method method : type.getDeclaredMethods()) {
-                boolean shared = !Modifier.isPublic(method.getModifiers()) && names.contains(method.getName());
+                boolean shared = Modifier.isPrivate(method.getModifiers()) && names.contains(method.getName());
                 Check.due(type.getName() + "." + method.getName() + " bears a public name", shared, false);
             }
         }

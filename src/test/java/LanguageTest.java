@@ -8,10 +8,11 @@ import java.util.regex.Pattern;
 /** Those rules of LANGUAGE.md that the text of the program shows at once; .ci/run starts it in the project's folder. */
 public final class LanguageTest {
     private static final String[] NOT_THERE = {
-        "package", "import", "catch", "finally", "synchronized", "assert", "double", "float", "equals", "hashCode",
-        "toString", "getClass", "identityHashCode", "Object", "var", "record", "yield", "native", "volatile",
-        "transient", "sealed", "System", "Thread", "Random", "Exact",
+        "package", "finally", "synchronized", "assert", "hashCode", "getClass", "identityHashCode", "Object", "native",
+        "volatile", "transient", "Thread", "Random", "Exact", "currentTimeMillis", "nanoTime", "getMessage",
     };
+    private static final String EXCEPTIONS = "(IllegalState|IllegalArgument|IndexOutOfBounds|Arithmetic"
+        + "|UnsupportedOperation|NoSuchElement|Runtime)Exception";
 
     public static void main(String[] args) throws IOException {
         String source = Files.readString(Path.of("src/main/java/Restitutory.java"), StandardCharsets.UTF_8);
@@ -29,7 +30,11 @@ public final class LanguageTest {
         Check.due("joins texts by +", code.contains("\" +") || code.contains("+ \""), false);
         Check.due("at most twelve classes", count("\\b(class|enum|interface)\\b", code) <= 12, true);
         Check.due("throws only new ones", count("\\bthrow\\b", code),
-            count("\\bthrow new (IndexOutOfBounds|IllegalArgument|IllegalState)Exception\\(\"\"\\);", code));
+            count("\\bthrow new " + EXCEPTIONS + "\\((\"\")?\\);", code));
+        Check.due("catches only what rule 6 names", count("\\bcatch\\b", code),
+            count("\\bcatch \\(" + EXCEPTIONS + " \\w+\\)", code));
+        Check.due("imports only what rule 4 names", count("\\bimport\\b", code),
+            count("(?m)^import java\\.util\\.(ArrayList|List|Arrays|Iterator|NoSuchElementException);", code));
         Check.due("other static state", count("\\bstatic (?!final|class)(?![\\w<>\\[\\]]+ \\w+\\()", code), 0);
         methodLengths(code);
         Check.end();

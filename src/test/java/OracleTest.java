@@ -35,6 +35,7 @@ public final class OracleTest {
     }
 
     public static void main(String[] args) throws ReflectiveOperationException {
+        Check.term("An object is used for at most 512 calls after it has been made; what later calls answer is free.");
         for (int run = 0; run < RUNS; run++) {
             new OracleTest(run).calls();
         }
