@@ -3,7 +3,6 @@ public final class StoriesTest {
     private static final int BOUGHT = 0, GIVEN = 1, INHERITED = 2, SEIZED = 3, FORCED = 4, LEFT = 5;
 
     public static void main(String[] args) {
-        readme();
         passingOn();
         takenAndGivenBack();
         soldInDarkYears();
@@ -31,27 +30,6 @@ public final class StoriesTest {
     private static void owner(String what, Restitutory x, int want) {
         Check.due("20: " + what, x.owner(0), want);
         Check.due("21: " + what, x.ownerAnew(0), want);
-    }
-
-    /** What README.md shows. */
-    private static void readme() {
-        Restitutory x = new Restitutory();
-        int dealer = x.person(0);
-        int family = x.person(1);
-        int buyer = x.person(2);
-        x.now(1960);
-        x.persecution(1, 0, 1933, 1945);
-        int painting = x.thing(0b0111, 100);
-        x.station(painting, dealer, Restitutory.GIVEN, 0, 1905);
-        x.station(painting, family, Restitutory.BOUGHT, 0, 1930);
-        int sale = x.station(painting, buyer, Restitutory.BOUGHT, 0, 1938);
-        Check.due("README: presumed", x.isLoss(painting, sale), true);
-        Check.due("README: who holds it", x.holder(painting), buyer);
-        owner("README: who owns it", x, family);
-        Check.due("README: who asks", x.asks(family), 1);
-        x.rebut(painting, sale, true);
-        owner("README: rebutted", x, buyer);
-        Check.due("README: nobody asks", x.asks(family), 0);
     }
 
     private static void passingOn() {
